@@ -4,7 +4,7 @@ import java.util.Random;
 
 /** Random calls, in chosen mixtures, answered by the program and by the model alike. */
 final class ModelTest {
-    private static final int OBJECTS = 6000;
+    private static final int OBJECTS = 1500;
     private static final int CALLS = 512;
     /** ACTIONS that wait, begin JOBS and enter FRAMES stand more often than those that note. */
     private static final int[] OFTEN = {
