@@ -33,6 +33,12 @@ final class Promise05RunTest {
         rig.due("run 100", 5).notes(1, 4, 3, 2, 5).due("count 3", 6);
     }
 
+    private static void allOfOneTimeComeBeforeAnyIsResumed() {
+        Rig rig = new Rig("all of one time").program(0, "DELAY 5", "NOTE 1", "YIELD", "NOTE 3").program(1, "DELAY 5", "NOTE 2");
+        rig.due("start 0", 0).due("start 1", 1).due("run 3", 3).notes(1).due("count 4", 2).due("count 6", 0);
+        rig.due("run 100", 2).notes(1, 2, 3);
+    }
+
     private static void sixtyActionsAtMost() {
         Rig rig = new Rig("sixty actions").program(0, "TRY 1 1", "TRY 1 1", "TRY 2 2", "NOTE 9");
         rig.program(1, "TRY 2 2", "TRY 2 2", "TRY 2 2");
@@ -87,6 +93,7 @@ final class Promise05RunTest {
         noMoreThanAsked();
         inTurn();
         sameTimeInTheOrderTheyBegan();
+        allOfOneTimeComeBeforeAnyIsResumed();
         sixtyActionsAtMost();
         sixtyEndABody();
         sixtyAndAThrow();
