@@ -83,10 +83,12 @@ interface Face {
         for (int what = 0; what <= 7; what++) {
             see(seen, "count " + what);
         }
-        for (int k = 0; k < Math.min(60, count(2)); k++) {
+        int notes = Math.min(60, count(2));
+        for (int k = 0; k < notes; k++) {
             see(seen, "noted " + k);
         }
-        for (int job = 0; job < count(0); job++) {
+        int jobs = count(0);
+        for (int job = 0; job < jobs; job++) {
             see(seen, "state " + job);
             see(seen, "cause " + job);
             see(seen, "result " + job);

@@ -6,6 +6,8 @@ import java.util.Random;
 final class ModelTest {
     private static final int OBJECTS = 1500;
     private static final int CALLS = 512;
+    /** As many calls as a look at 24 JOBS and 60 notes can take. */
+    private static final int LOOKS = 8 + 1 + 60 + 1 + 24 * 12;
     /** ACTIONS that wait, begin JOBS and enter FRAMES stand more often than those that note. */
     private static final int[] OFTEN = {
         0, 1, 1, 2, 3, 3, 3, 4, 4, 5, 6, 7, 8, 9, 10, 10, 11, 11, 12, 12, 13, 14, 15};
@@ -59,6 +61,17 @@ final class ModelTest {
         if (dice < 85) {
             return goodAction();
         }
+        return dice < 92 ? anyLook() : oddCall();
+    }
+
+    private String anyLook() {
+        int job = between(0, Math.max(0, model.count(0) - 1));
+        String[] looks = {"state " + job, "cause " + job, "result " + job, "about " + job + " " + between(0, 8),
+            "count " + between(0, 7), "noted " + between(0, 59)};
+        return looks[random.nextInt(looks.length)];
+    }
+
+    private String oddCall() {
         int[] odd = {-1, 0, 5, 8, 9, 24, 59, 60, 61, 100, 101, Integer.MIN_VALUE, Integer.MAX_VALUE};
         int n = odd[random.nextInt(odd.length)];
         String[] wrong = {"run " + n, "start " + n, "cancel " + n, "result " + n, "state " + n, "cause " + n,
@@ -74,8 +87,10 @@ final class ModelTest {
             System.out.println(calls + " answered " + got + ", due is " + due);
             return false;
         }
-        List<String> dueAfter = model.snapshot();
-        List<String> gotAfter = program.snapshot();
+        return calls.size() > CALLS - LOOKS || looksTheSame(model.snapshot(), seenOnATwin());
+    }
+
+    private boolean looksTheSame(List<String> dueAfter, List<String> gotAfter) {
         for (int i = 0; i < dueAfter.size(); i++) {
             if (i >= gotAfter.size() || !dueAfter.get(i).equals(gotAfter.get(i))) {
                 System.out.println(calls + " then " + (i < gotAfter.size() ? gotAfter.get(i) : "nothing")
@@ -84,6 +99,15 @@ final class ModelTest {
             }
         }
         return dueAfter.size() == gotAfter.size();
+    }
+
+    /** A twin is looked at, since looking at everything would use up the calls of the object itself. */
+    private List<String> seenOnATwin() {
+        Face twin = Face.of(new JobRuntime());
+        for (String call : calls) {
+            twin.answer(call);
+        }
+        return twin.snapshot();
     }
 
     private boolean runOne() {

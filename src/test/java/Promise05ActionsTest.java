@@ -135,7 +135,7 @@ final class Promise05ActionsTest {
             Rig rig = new Rig("25th by " + action).program(0, "TRY 1 2", "NOTE 3").program(1, action, "NOTE 1");
             rig.program(2, "NOTE 2");
             for (int i = 0; i < 23; i++) {
-                rig.face.start(9);
+                rig.due("start 9", i);
             }
             rig.due("start 0", 23).due("run 100", 24).notes(196, 2, 3).due("count 0", 24).due("state 23", 8);
             rig.due("about 23 5", -1).due("about 23 8", 0).due("count 6", 0).due("count 7", 4);
@@ -145,7 +145,7 @@ final class Promise05ActionsTest {
     private static void aCauseComesBeforeTheTwentyFifth() {
         Rig rig = new Rig("cause before 96").program(0, "CANCEL -1", "TRY 1 2").program(1, "SCOPE 9").program(2, "NOTE 2");
         for (int i = 0; i < 23; i++) {
-            rig.face.start(9);
+            rig.due("start 9", i);
         }
         rig.due("start 0", 23).due("run 100", 24).notes().due("state 23", 9);
     }

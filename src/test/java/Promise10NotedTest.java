@@ -11,10 +11,9 @@ final class Promise10NotedTest {
     private static void sixtyAreKept() {
         Rig rig = new Rig("sixty").program(0, "NOTE 0", "NOTE 1", "NOTE 2", "NOTE 3", "NOTE 4", "NOTE 5", "NOTE 6", "NOTE 7");
         for (int i = 0; i < 7; i++) {
-            rig.face.start(0);
+            rig.due("start 0", i);
         }
-        rig.face.run(100);
-        rig.due("count 2", 56).due("noted 55", 7).refused("noted 56", Rig.NO_ELEMENT);
+        rig.due("run 100", 7).due("count 2", 56).due("noted 55", 7).refused("noted 56", Rig.NO_ELEMENT);
         rig.due("start 0", 7).due("run 1", 1).due("count 2", 64);
         for (int k = 0; k < 60; k++) {
             rig.due("noted " + k, k % 8);

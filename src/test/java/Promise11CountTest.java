@@ -43,8 +43,7 @@ final class Promise11CountTest {
     private static void notesBeyondTheKeptOnesCount() {
         Rig rig = new Rig("more notes").program(0, "NOTE 1", "NOTE 1", "NOTE 1", "NOTE 1", "NOTE 1", "NOTE 1", "NOTE 1", "NOTE 1");
         for (int i = 1; i <= 10; i++) {
-            rig.face.start(0);
-            rig.due("run 1", 1).due("count 2", 8 * i).due("count 7", 8 * i).due("count 5", i).due("count 1", i);
+            rig.due("start 0", i - 1).due("run 1", 1).due("count 2", 8 * i).due("count 7", 8 * i).due("count 5", i).due("count 1", i);
         }
     }
 
