@@ -32,7 +32,8 @@ public final class JobRuntime {
     private static final int UNCAUGHT = 200;
 
     private static final int NOT_WAITING = -1;
-    private static final int NEVER = Integer.MAX_VALUE;
+    /** Later than all times. */
+    private static final int NEVER = 0x7fffffff;
 
     /** Far above the FRAMES that can go, and the steps that can be made, one after another. */
     private static final int AMPLE = 1000;

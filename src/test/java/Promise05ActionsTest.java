@@ -3,6 +3,8 @@ final class Promise05ActionsTest {
     private static void noteAndAsk() {
         Rig rig = new Rig("note and ask").program(0, "NOTE -7", "NOTE 2147483647", "ASK", "CANCEL -1", "ASK");
         rig.runAll().notes(-7, Integer.MAX_VALUE, 1, 0).due("state 0", 9);
+        rig = new Rig("ask in a shield").program(0, "SHIELD 1", "ASK").program(1, "ASK", "CANCEL -1", "ASK");
+        rig.runAll().notes(1, 0, 0).due("state 0", 9);
     }
 
     private static void delay() {
@@ -47,6 +49,8 @@ final class Promise05ActionsTest {
         rig.runAll().notes(209, 1).due("result 1", 0).due("state 0", 8).due("count 3", 3);
         rig = new Rig("join again").program(0, "SUPERVISOR 1").program(1, "LAUNCH 2 0", "YIELD", "JOIN 0", "NOTE 1");
         rig.program(2, "THROW 9").runAll().notes(209, 1).due("state 1", 8).due("count 5", 5);
+        rig = new Rig("join one that had completed").program(0, "LAUNCH 1 0", "YIELD", "JOIN 0", "RETURN 1");
+        rig.program(1, "RETURN 20").runAll().due("result 1", 20).due("result 0", 1);
         rig = new Rig("join and fail").program(0, "LAUNCH 1 0", "JOIN 0", "NOTE 1", "JOIN 0", "NOTE 2").program(1, "THROW 6");
         rig.runAll().notes(1, 206).due("cause 0", 6).due("about 0 2", 0);
     }

@@ -70,6 +70,11 @@ final class Promise05FinishingTest {
         Rig rig = new Rig("a chain of 24").program(0, "LAUNCH 0 0", "DELAY 50", "NOTE 1");
         rig.due("start 0", 0).due("run 23", 23).due("count 0", 24).due("count 1", 0).due("cancel 0", 1).due("count 4", 24);
         rig.due("run 100", 24).due("count 1", 24).due("cause 23", 0).due("cause 0", 0).due("about 23 2", 1).due("about 22 2", 0);
+        for (String end : new String[] {"CANCEL -1", "THROW 5"}) {
+            rig = new Rig("the root of a chain of 24 ends with " + end).program(0, "LAUNCH 1 0", "DELAY 2", end);
+            rig.program(1, "TRY 2 9", "DELAY 50").program(2, "LAUNCH 1 0").runAll();
+            rig.due("count 0", 24).due("count 1", 24).due("count 3", 2).due("cause 23", 0).due("noted 0", 196);
+        }
         rig = new Rig("a chain of scopes").program(0, "SCOPE 0");
         rig.runAll().due("count 0", 24).due("count 1", 24).due("cause 0", 96).notes(296).due("count 5", 47);
     }

@@ -47,6 +47,23 @@ final class Promise05FramesTest {
         rig.program(3, "THROW 5").program(4, "NOTE 4").runAll().notes(4, 2, 205);
     }
 
+    /** The JOB has no CAUSE, so that it would go on if a FRAME held back what is thrown. */
+    private static void cancelledThrownThrough(String frame, int... notes) {
+        Rig rig = new Rig("cancelled in " + frame).program(0, "LAUNCH 5 0", "YIELD", frame, "NOTE 9");
+        rig.program(1, "AWAIT 0", "NOTE 1").program(2, "NOTE 2").program(3, "THROW 5").program(5, "CANCEL -1");
+        rig.runAll().notes(notes).due("state 0", 9).due("about 0 2", 0).due("count 5", 3);
+    }
+
+    private static void cancelledThrownThroughAll() {
+        cancelledThrownThrough("AWAIT 0");
+        cancelledThrownThrough("TRY 1 2");
+        cancelledThrownThrough("TRY 3 1", 105);
+        cancelledThrownThrough("SHIELD 1");
+        cancelledThrownThrough("AFTER 1 2", 2);
+        cancelledThrownThrough("AFTER 2 1", 2);
+        cancelledThrownThrough("AFTER 3 1");
+    }
+
     private static void shieldEnds() {
         Rig rig = new Rig("shield ends").program(0, "CANCEL -1", "AFTER 1 2").program(1, "SHIELD 3", "NOTE 1", "YIELD", "NOTE 8");
         rig.program(3, "YIELD", "AFTER 4 5").program(4, "YIELD", "NOTE 4").program(5, "YIELD", "NOTE 5").program(2, "NOTE 2", "YIELD");
@@ -84,6 +101,7 @@ final class Promise05FramesTest {
         afterDoesBoth();
         lastIsAFrameAsOthersAre();
         thrownThroughHandlerShieldAndLast();
+        cancelledThrownThroughAll();
         shieldEnds();
         emptyPrograms();
         sixFrames();
